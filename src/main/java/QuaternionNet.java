@@ -13,7 +13,7 @@ public final class QuaternionNet {
     private static final int COUNTED_MOST = 1000;
     private static final int ROOT_MOST = 1000000;
 
-    private final Network network = new Network();
+    private final Network network;
     private final Walks walkCounts = new Walks();
     private final Quaternion[] registers;
     private final Quaternion work = new Quaternion();
@@ -27,8 +27,12 @@ public final class QuaternionNet {
     private int deedCount, place;
 
     public QuaternionNet() {
-        registers = Quaternion.fresh(REGISTERS);
-        reader = new Reader(registers, network.steps);
+        // the reader works on the same registers and steps, and is given them before they are this object's
+        Quaternion[] madeRegisters = Quaternion.fresh(REGISTERS);
+        Network madeNetwork = new Network();
+        reader = new Reader(madeRegisters, madeNetwork.steps);
+        registers = madeRegisters;
+        network = madeNetwork;
     }
 
     // ---- registers

@@ -99,11 +99,13 @@ public final class ModelTest {
         same("to", net.to(node, step), model.to(node, step), node, step);
         same("far", net.far(node, other), model.far(node, other), node, other);
         same("way", net.way(node, i - 1), model.way(node, i - 1), node, i - 1);
-        if (random(12) == 0) {
+        if (random(8) == 0) same("image", net.image(), model.image());
+        if (random(8) == 0) same("restore", net.restore(), model.restore());
+        if (random(8) == 0) {
             int p = new int[] {5, 13, 17, 29, 7, 0, -5}[random(7)];
             same("prime", net.prime(p), model.prime(p), p);
         }
-        if (random(12) == 0) {
+        if (random(8) == 0) {
             int q = new int[] {3, 5, 7, 2, 0, 9, -3}[random(7)];
             same("modulus", net.modulus(q), model.modulus(q), q);
         }

@@ -466,6 +466,8 @@ public final class PromisesTest {
         due("24: no places", x.ends(2), 6);
         lay(x, 2, 0, 6, 0);
         due("24: no STEP", x.ends(2), BAD);
+        lay(x, 2, 6, 0, 0);
+        due("24: no STEP", x.ends(2), BAD);
         lay(x, 2, 0, 0, -1);
         due("24: no STEP", x.ends(2), BAD);
         x.prime(13);
@@ -487,6 +489,8 @@ public final class PromisesTest {
         due("25: none", x.meets(0), NOT);
         lay(x, 0, 0, 5, 0, 6);
         due("25: no STEP behind it", x.meets(0), BAD);
+        lay(x, 0, -1, 0);
+        due("25: no STEP ahead of it", x.meets(0), BAD);
         x.walk(3);
         lay(x, 0, 0, 1, 4, 5);
         due("25: from PLACE", x.meets(0), 2);
@@ -503,6 +507,8 @@ public final class PromisesTest {
         due("26: none", x.product(3, 0), 0);
         isRegister("26: none", x, 3, 1, 0, 0, 0);
         lay(x, 0, 0, 1, 6);
+        due("26: no STEP", x.product(3, 0), BAD);
+        lay(x, 0, 6, 1);
         due("26: no STEP", x.product(3, 0), BAD);
         x.row(1, 11);
         due("26: eleven times the same", x.product(4, 1), 11);
@@ -564,6 +570,13 @@ public final class PromisesTest {
         due("29: no more", x.book(6, 0), VOID);
         due("28: behind the others", x.note(0), 1);
         due("29: behind the others", x.book(6, 0), 2);
+        x.put(0, 0, 0, 0, 0);
+        due("30: the first", x.strike(0), 1);
+        due("30: the next come up", x.book(0, 0), 1);
+        due("30: seven less one", x.count(6), 6);
+        x.put(0, 2, 0, 0, -2);
+        due("30: the last", x.strike(0), 1);
+        due("30: the last", x.book(5, 4), VOID);
         for (int r : OUTSIDE) {
             due("28: note(" + r + ")", x.note(r), BAD);
             due("30: strike(" + r + ")", x.strike(r), BAD);
@@ -796,6 +809,21 @@ public final class PromisesTest {
         isRegister("38: another image", x, 0, 5, 5, 5, 5);
     }
 
+    private static void promise39OfOne() {
+        QuaternionNet x = network(13, 7);
+        x.image();
+        x.prime(29);
+        due("39: p alone is otherwise", x.restore(), 0);
+        due("39: its p", x.count(0), 13);
+        due("39: its NODES", x.count(3), 336);
+        due("39: its walks", x.walks(12, 0), 337892934880L);
+        x.modulus(3);
+        due("39: q alone is otherwise", x.restore(), 0);
+        due("39: its q", x.count(1), 7);
+        due("39: its NODES", x.count(3), 336);
+        due("39: its RING", x.ring(), 4);
+    }
+
     private static void promise40() {
         QuaternionNet x = network(29, 7);
         x.walk(0);
@@ -857,6 +885,7 @@ public final class PromisesTest {
         promise34();
         promises35To37();
         promises38And39();
+        promise39OfOne();
         promise40();
         CHECKS.end();
     }

@@ -267,6 +267,8 @@ public final class PromisesTest {
             x.put(1, 2 * x.node(n, 0), 2 * x.node(n, 1), 2 * x.node(n, 2), 2 * x.node(n, 3));
             due("12: nodeOf node " + n, x.nodeOf(1), n);
         }
+        x.put(0, 1, 0, 0, 0);
+        due("12: not the latest put", x.nodeOf(1), 23);
         x.prime(13);
         x.put(0, 1, 1, 0, 0);
         due("12: no NODE", x.nodeOf(0), NOT);
@@ -487,6 +489,8 @@ public final class PromisesTest {
         due("25: the first one", x.meets(0), 2);
         lay(x, 0, 0, 0);
         due("25: none", x.meets(0), NOT);
+        lay(x, 0, 5);
+        due("25: none behind its one place", x.meets(0), NOT);
         lay(x, 0, 0, 5, 0, 6);
         due("25: no STEP behind it", x.meets(0), BAD);
         lay(x, 0, -1, 0);

@@ -275,13 +275,26 @@ public final class ModelTest {
     private static void wholeNetwork(int p, int q) {
         ModelTest both = new ModelTest();
         both.run = -(p * 10 + q);
-        both.same("modulus", both.net.modulus(q == 5 ? 3 : q), both.model.modulus(q == 5 ? 3 : q), q);
-        both.same("prime", both.net.prime(p), both.model.prime(p), p);
-        both.same("modulus", both.net.modulus(q), both.model.modulus(q), q);
+        both.begin(p, q);
         for (int what = -1; what <= 10; what++) both.same("count", both.net.count(what), both.model.count(what), what);
         both.wholeSteps();
-        both.wholeNodes();
         both.wholeCounts();
+        int nodes = both.nodes();
+        for (int node = -1; node <= nodes; node++) {
+            both.begin(p, q);
+            both.wholeNode(node);
+        }
+    }
+
+    /** With new ones, since an object is used for at most 512 calls. */
+    private void begin(int p, int q) {
+        net = new QuaternionNet();
+        model = new Model();
+        call = 0;
+        int other = q == 5 ? 3 : q;
+        same("modulus", net.modulus(other), model.modulus(other), other);
+        same("prime", net.prime(p), model.prime(p), p);
+        same("modulus", net.modulus(q), model.modulus(q), q);
     }
 
     private void wholeSteps() {
@@ -290,15 +303,13 @@ public final class ModelTest {
         }
     }
 
-    private void wholeNodes() {
-        for (int node = -1; node <= nodes(); node++) {
-            for (int i = -1; i <= 5; i++) same("node", net.node(node, i), model.node(node, i), node, i);
-            for (int s = -1; s <= steps(); s++) same("to", net.to(node, s), model.to(node, s), node, s);
-            for (int other = -1; other <= nodes(); other++) {
-                same("far", net.far(node, other), model.far(node, other), node, other);
-            }
-            for (int i = -2; i <= 8; i++) same("way", net.way(node, i), model.way(node, i), node, i);
+    private void wholeNode(int node) {
+        for (int i = -1; i <= 5; i++) same("node", net.node(node, i), model.node(node, i), node, i);
+        for (int s = -1; s <= steps(); s++) same("to", net.to(node, s), model.to(node, s), node, s);
+        for (int other = -1; other <= nodes(); other++) {
+            same("far", net.far(node, other), model.far(node, other), node, other);
         }
+        for (int i = -2; i <= 8; i++) same("way", net.way(node, i), model.way(node, i), node, i);
     }
 
     private void wholeCounts() {

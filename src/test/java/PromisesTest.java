@@ -665,6 +665,7 @@ public final class PromisesTest {
         QuaternionNet x = new QuaternionNet();
         String[] texts = {"", "r", "g", "~", "[", "[1", "[1,", "[1,2,3,4", "r0+", "r0*", "[-", "[1,2,3,-"};
         for (String text : texts) refuses(x, text, -100 - text.length(), 1, text.length());
+        x = new QuaternionNet(); // one is used for at most 512 calls
         refuses(x, "(r0", -103, 2, 0, 1, 3);
         refuses(x, "r0)", -102, 1, 2);
         refuses(x, "()", -101, 2, 0, 1, 1);
@@ -678,6 +679,7 @@ public final class PromisesTest {
         refuses(x, "r0+-r0", -103, 1, 3);
         refuses(x, "r0~r0", -102, 1, 2);
         refuses(x, "r0(r0)", -102, 1, 2);
+        x = new QuaternionNet();
         refuses(x, "[12345,0,0,0]", -105, 1, 5);
         refuses(x, "[1,2,3]", -106, 1, 6);
         refuses(x, "[1,2,3,4,5]", -108, 1, 8);

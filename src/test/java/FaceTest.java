@@ -1,12 +1,17 @@
+import java.io.IOException;
 import java.lang.reflect.Constructor;
 import java.lang.reflect.Field;
 import java.lang.reflect.Method;
 import java.lang.reflect.Modifier;
+import java.nio.file.Files;
+import java.nio.file.Path;
 import java.util.ArrayList;
 import java.util.HashSet;
 import java.util.List;
 import java.util.Set;
 import java.util.TreeSet;
+import java.util.regex.Matcher;
+import java.util.regex.Pattern;
 
 /** The class has the face of the document and no other; its own classes keep to the sizes of LANGUAGE.md. */
 public final class FaceTest {
@@ -21,6 +26,8 @@ public final class FaceTest {
         "int why(int,int)", "int row(int,int)", "int set(int,int,int)", "long get(int,int)", "int image()",
         "int restore()", "int count(int)"};
     private static final String[] CONSTANTS = {"int BAD", "int NOT", "int FULL", "int STATE", "long VOID"};
+
+    private static final Path DOCUMENT = Path.of("../shared/DOC.md");
 
     private static void holds(String what, boolean is) {
         CHECKS.due(what, is ? 1 : 0, 1);
@@ -53,6 +60,23 @@ public final class FaceTest {
         holds("the constants: " + open, open.equals(new TreeSet<>(List.of(CONSTANTS))));
     }
 
+    /** What is told above is what the document says, where it is at hand. */
+    private static void document() throws IOException {
+        if (!Files.exists(DOCUMENT)) return;
+        Matcher block = Pattern.compile("(?s)```java\n(.*?)```").matcher(Files.readString(DOCUMENT));
+        holds("the document has a face", block.find());
+        Set<String> methods = new TreeSet<>();
+        Matcher method = Pattern.compile("public (\\w+ \\w+)\\(([^)]*)\\);").matcher(block.group(1));
+        while (method.find()) methods.add(method.group(1) + "(" + method.group(2).replaceAll(" \\w+(, )?", ",").replaceAll(",$", "") + ")");
+        holds("the document's methods: " + methods, methods.equals(new TreeSet<>(List.of(FACE))));
+        Set<String> constants = new TreeSet<>();
+        Matcher line = Pattern.compile("public static final (\\w+) ([^;]*);").matcher(block.group(1));
+        while (line.find()) {
+            for (String one : line.group(2).split(", ")) constants.add(line.group(1) + " " + one.replaceAll(" =.*", ""));
+        }
+        holds("the document's constants: " + constants, constants.equals(new TreeSet<>(List.of(CONSTANTS))));
+    }
+
     private static void classesInside(Class<?> face) {
         Class<?>[] inside = face.getDeclaredClasses();
         holds("at most twelve classes", inside.length < 12);
@@ -79,7 +103,7 @@ public final class FaceTest {
         }
     }
 
-    public static void main(String[] args) {
+    public static void main(String[] args) throws IOException {
         Class<?> face = QuaternionNet.class;
         holds("public and final", face.getModifiers() == (Modifier.PUBLIC | Modifier.FINAL));
         holds("without a package", face.getPackageName().isEmpty());
@@ -88,6 +112,7 @@ public final class FaceTest {
             && Modifier.isPublic(makers[0].getModifiers()));
         methods(face);
         fields(face);
+        document();
         classesInside(face);
         sizes(face);
         for (Class<?> one : face.getDeclaredClasses()) sizes(one);

@@ -6,13 +6,14 @@ import java.util.regex.Pattern;
 
 /**
  * The sentences of the document and what their tests found. Each test is given the words that it is for; they must
- * stand in the document so, and at the end no word of its terms and promises may be left that no test was given.
+ * stand in the document so, and at the end no word from its first line to its last promise may be left without a test.
  * Where the document is not at hand, the tests run all the same, and that is said.
  */
 final class Sentences {
     private static final Path DOCUMENT = Path.of("../shared/DOC.md");
-    // headings, the calls' own lines and drawn lines promise nothing
-    private static final Pattern NO_PROMISE = Pattern.compile("## \\w+( \\d+: \\w+( \\w+ \\w+)?)? |`\\w+ ?\\w+\\([^`]*`:|```(text)?"
+    // headings, what the document is about, the calls' own lines and drawn lines promise nothing; FaceTest has the face
+    private static final Pattern NO_PROMISE = Pattern.compile("# QuaternionNet ## What it is A bench for .*? an image\\."
+        + "|## The public face ```java .*? ```|## \\w+( \\d+: \\w+( \\w+ \\w+)?)? |`\\w+ ?\\w+\\([^`]*`:|```(text)?"
         + "|======== \\d?|SO THAT NOTHING IS READ TWO WAYS\\.|Details\\.");
 
     private final Checks checks;
@@ -26,7 +27,7 @@ final class Sentences {
         isHere = Files.exists(DOCUMENT);
         if (!isHere) System.out.println("there is no " + DOCUMENT + ": what it says word by word is not looked at");
         String all = isHere ? Files.readString(DOCUMENT).replaceAll("\\s+", " ") : "## Terms ## Not promised";
-        text = all.substring(all.indexOf("## Terms "), all.indexOf("## Not promised"));
+        text = all.substring(0, all.indexOf("## Not promised"));
         given = new boolean[text.length()];
         Matcher matcher = NO_PROMISE.matcher(text);
         while (matcher.find()) give(matcher.start(), matcher.end());
@@ -36,9 +37,14 @@ final class Sentences {
         for (int i = from; i < to; i++) given[i] = true;
     }
 
+    /** The test of a sentence ahead of the document's Terms. */
+    void opening(String sentence, Runnable test) {
+        run(sentence, 0, text.indexOf("## Terms "), test);
+    }
+
     /** The test of a sentence of the document's Terms. */
     void term(String sentence, Runnable test) {
-        run(sentence, 0, text.indexOf("## Promise 1:"), test);
+        run(sentence, text.indexOf("## Terms "), text.indexOf("## Promise 1:"), test);
     }
 
     /** The test of a sentence of a promise. */

@@ -287,8 +287,10 @@ final class StateBounds extends Bounds {
         before.set(5, 0L); // DEEDS are not of it
         x.prime(17);
         x.modulus(5);
+        // both are struck, so that others come to their places in THE BOOK
+        due("strike", x.strike(5), 3);
+        due("strike", x.strike(0), 1);
         for (int r = 0; r < 6; r++) x.put(r, 7, 7, 7, r);
-        x.strike(5);
         for (int r = 0; r < 5; r++) x.note(r);
         x.walk(17);
         due("restore", x.restore(), place);

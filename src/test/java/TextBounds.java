@@ -482,6 +482,25 @@ final class TextBounds extends Bounds {
         refuses("r0+r6", -104, 1, 4);
         refuses("[1,2,3,12345]", -111, 1, 11);
         refuses("(r0))", -104, 1, 4);
+        String[] tails = {"", "x", ")", "~", "~)", "r", "r6", "g", "gr", "g123", "[", "[]", "[-", "[--", "[1", "[1]", "[1,", "[1,,",
+            "[1,2]", "[1,2,-]", "[1,2,3]", "[1,2,3,", "[1,2,3,4", "[1,2,3,4,", "[12345", "[1,2,3,12345", "r0(", "g0r", "[0,0,0,0]0",
+            "r0+", "r0+)", "r0-*", "r0*", "r0*-", "r0*r1+r6", "g99-g"};
+        int[] places = {0, 0, 0, 1, 1, 1, 1, 1, 1, 3, 1, 1, 2, 2, 2, 2, 3, 3, 4, 6, 6, 7, 8, 8, 5, 11, 2, 2, 9, 3, 3, 3, 3, 3, 7, 5};
+        for (int i = 0; i < tails.length; i++) refusesInGroups(tails[i], "", -100 - places[i], 1, places[i]);
+    }
+
+    /** It is refused so in none to four GROUPS, behind which a place moves on, but not the number of a STEP. */
+    private void refusesInGroups(String begin, String end, int answer, int sort, int number) {
+        for (int open = 0; open <= 4; open++) {
+            int[] troubles = new int[2 * open + 2];
+            for (int i = 0; i < open; i++) {
+                troubles[2 * i] = 2;
+                troubles[2 * i + 1] = i;
+            }
+            troubles[2 * open] = sort;
+            troubles[2 * open + 1] = sort == 4 ? number : number + open;
+            refuses(times(open, "(") + begin + times(open, end), sort == 1 ? answer - open : answer, troubles);
+        }
     }
 
     private void troublesOfSigns() {
@@ -492,6 +511,9 @@ final class TextBounds extends Bounds {
         refuses("r5*r1+r2+r4", STATE, 3, 8);
         refuses("r2-r4+r2*r4", STATE, 3, 5);
         refuses("r4+" + times(25, "r5+") + "r2", STATE, 3, 77);
+        String[] beyond = {"r2+r4", "r3-r4", "r2*r2", "r0+r2*r3", "r0*r1+r2+r4"};
+        int[] places = {2, 2, 2, 5, 5};
+        for (int i = 0; i < beyond.length; i++) refusesInGroups(beyond[i], ")", STATE, 3, places[i]);
     }
 
     private void troublesOfSteps() {
@@ -500,6 +522,7 @@ final class TextBounds extends Bounds {
         refuses("g07", NOT, 4, 7);
         refuses("r0*g5+g10", NOT, 4, 10);
         refuses("~g42", NOT, 4, 42);
+        for (String text : new String[] {"g6", "~g6", "r0*g6", "r0+g6", "g5-g06*r0", "g6+g7"}) refusesInGroups(text, ")", NOT, 4, 6);
     }
 
     private void firstOfTwoTroubles() {

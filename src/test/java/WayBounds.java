@@ -409,6 +409,17 @@ final class WayBounds extends Bounds {
         lay(x, 1, 3);
         due("NODE 0 was not ahead", x.meets(1), NOT);
         due("asked once more", x.meets(1), NOT);
+        // from each NODE alike, also behind more DEEDS than there are NODES
+        for (int[] pq : networks()) {
+            x = of(pq[0], pq[1]);
+            int[] row = {0, 1, 2, 3, 4, 5, 0, 1, 2, 3, 4, 5};
+            lay(x, 0, row);
+            int place = 0;
+            for (int walked = 0; walked < 20; walked++) {
+                due("from " + place, x.meets(0), meeting(table(pq[0], pq[1]), place, row));
+                place = x.walk(walked % 5);
+            }
+        }
     }
 
     private void rowsWithoutPlaces() {
